@@ -9,7 +9,7 @@ import java.util.Random;
 
 /** Random runs of at most 512 calls, each answer compared with that of the model. The seeds are fixed. */
 final class RandomRunsTest {
-    private static final int RUNS = 600;
+    private static final int RUNS = 1500;
     private static final int MOST_WRONG = 10;
 
     private final Random random;
@@ -71,6 +71,34 @@ final class RandomRunsTest {
         for (int i = random.nextInt(7); i >= 0; i--) {
             addBoards();
         }
+        if (random.nextBoolean()) {
+            fillStock();
+        }
+        for (int i = random.nextInt(3); i > 0; i--) {
+            obstacle(index(walls()));
+        }
+    }
+
+    /** Boards of each kind, so that modules can be cut. */
+    private boolean fillStock() {
+        boolean isRight = true;
+        for (int kind = 0; kind < 5; kind++) {
+            int length = pick(2800, 2800, 2200, 1500 + random.nextInt(1300));
+            int width = pick(2070, 2100, 1300, 700 + random.nextInt(1400));
+            int colour = pick(0, 0, 0, 1, 2);
+            isRight = isRight && call("addBoards", colour, kind < 2 ? 8 : 18, length, width, pick(1, 1, 2, 3));
+        }
+        for (int colour = 0; colour < 3; colour++) {
+            isRight = isRight && call("addBoards", colour, 18, 2800, 2070, pick(1, 2));
+        }
+        return isRight;
+    }
+
+    private boolean obstacle(int wall) {
+        int low = pick(random.nextInt(3003), random.nextInt(2200), 820, 1400, 2000, 2100, 0);
+        int high = low + pick(0, 1, 1, 200, 580, 800);
+        int from = random.nextInt(4000);
+        return call("obstacle", wall, from, from + pick(-1, 0, 1, 20, 300, 300), low, high);
     }
 
     private char pick(String signs) {
@@ -152,7 +180,7 @@ final class RandomRunsTest {
     private boolean acts() {
         int module = index(model.modules());
         int wall = index(walls());
-        switch (random.nextInt(22)) {
+        switch (random.nextInt(25)) {
             case 0:
                 return call("addWall", pick("ewnsq"), pick(499, 500, 700, 3000, 9999, 10000));
             case 1:
@@ -160,9 +188,7 @@ final class RandomRunsTest {
             case 2:
                 return call("setOff", wall, random.nextInt(62), pick(-1, 0, 5, 60, 61));
             case 3:
-                int low = random.nextInt(3003);
-                int from = random.nextInt(4000);
-                return call("obstacle", wall, from, from + pick(-1, 0, 1, 20, 300), low, low + pick(0, 1, 200, 800));
+                return obstacle(wall);
             case 4:
             case 5:
                 return text() && call("addType");
@@ -172,28 +198,46 @@ final class RandomRunsTest {
             case 8:
             case 9:
             case 10:
-                return call("place", index(types()), wall, placeOnWall(wall), random.nextInt(20) == 0 ? 3
-                    : random.nextInt(3));
+                int colour = random.nextInt(20) == 0 ? 3 : random.nextInt(3);
+                return call("place", index(types()), wall, placeOnWall(wall), colour) && asksCauses();
             case 11:
-                return call("shift", module, placeOnWall(wall));
+                return call("shift", module, placeOnWall(wall)) && asksCauses();
             case 12:
             case 13:
-                return call("change", module, index(types()));
+                return call("change", module, index(types())) && asksCauses();
             case 14:
             case 15:
-                return addBoards();
+                return model.boards() < 12 ? fillStock() : addBoards();
             case 16:
             case 17:
-                return call("cut", module);
+                return call("cut", module) && call("boards") && call("offcuts") && call("area", 'd')
+                    && (model.boards() == 0 || call("board", model.boards() - 1, pick("lw")));
             case 18:
             case 19:
                 return call("lose", module, index(count("parts", module)));
             case 20:
+                return cutAndLose(module);
+            case 21:
                 return random.nextBoolean() ? call("setRate", index(3), pick(-1, 0, 7, 33, 100, 101))
                     : call("setSetup", pick(-1, 0, 1, 5, 20, 99, 100));
             default:
                 return call("job", index(3), pick(0, 1, 3, 5, 9, 20, 99, 100), pick(0, 4, 9, 15, 30, 999, 1000));
         }
+    }
+
+    /** Cuts again and again what was lost, so that offcuts are cut. */
+    private boolean cutAndLose(int module) {
+        boolean isRight = true;
+        for (int i = random.nextInt(6); i >= 0 && isRight; i--) {
+            isRight = call("cut", module);
+            for (int k = random.nextInt(4); k >= 0 && isRight; k--) {
+                isRight = call("lose", module, random.nextInt(Math.max(1, count("parts", module))));
+            }
+        }
+        for (int i = 0; i < model.boards() && isRight; i++) {
+            isRight = call("board", i, 'l') && call("board", i, 'w');
+        }
+        return isRight;
     }
 
     private int count(String name, int... arguments) {
@@ -203,6 +247,10 @@ final class RandomRunsTest {
         } catch (ReflectiveOperationException e) {
             return 3;
         }
+    }
+
+    private boolean asksCauses() {
+        return call("clash", 0) && call("clashNumber", 0) && call("clash", 1) && call("clashNumber", 1);
     }
 
     private boolean asks() {

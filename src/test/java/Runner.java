@@ -15,7 +15,8 @@ import java.util.List;
 final class Runner {
     private static final Class<?>[] TESTS = {
         RoomTest.class, TextTest.class, LayoutTest.class, PartsTest.class, SawTest.class, MoneyTest.class,
-        JobsTest.class, FiguresTest.class, FaceTest.class, RandomRunsTest.class,
+        JobsTest.class, FiguresTest.class, FaceTest.class, RulesTest.class,
+        RandomRunsTest.class,
     };
 
     public static void main(String[] args) throws IOException, ReflectiveOperationException {
