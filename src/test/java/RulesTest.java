@@ -12,6 +12,8 @@ final class RulesTest {
         "\\bRandom\\b", "\\bThread\\b", "\\bextends\\b", "\\bvar\\b", "while \\(true\\)", "for \\(;;\\)",
     };
 
+    private static final String NO_LINE = "-";
+
     private static String program() throws IOException {
         String text = Files.readString(Path.of("src/main/java/Carcasswright.java"));
         return text.replaceAll("(?s)/\\*.*?\\*/", "").replaceAll("//[^\n]*", "");
@@ -38,16 +40,17 @@ final class RulesTest {
     static void rule11_sizes() throws IOException {
         int classes = 0;
         int methodBegin = 0;
-        String methodEnd = "";
+        String methodEnd = NO_LINE;
         String[] lines = program().split("\n");
         for (int i = 0; i < lines.length; i++) {
-            Matcher head = Pattern.compile("((?: {4}){1,2})[\\w\\[\\] ]+\\((.*)").matcher(lines[i]);
+            Matcher head = Pattern.compile("((?: {4}){1,2})[\\w\\[\\] ]+\\w\\((.*)").matcher(lines[i]);
             if (head.matches() && !lines[i].endsWith(";")) {
                 methodBegin = i;
                 methodEnd = head.group(1) + "}";
                 Check.same("few arguments: " + lines[i], true, head.group(2).split(",").length <= 7);
             } else if (lines[i].equals(methodEnd)) {
                 Check.same("short: " + lines[methodBegin], true, i - methodBegin <= 60);
+                methodEnd = NO_LINE;
             }
             classes += lines[i].matches(".* class \\w+ \\{") ? 1 : 0;
         }
