@@ -105,6 +105,26 @@ final class LayoutTest {
         cause(shop, 'o', 0, 'h', 0);
     }
 
+    static void promise14_heightsOfTheLevels() {
+        String[] texts = {"b", "u", "t"};
+        int[][] heights = {{0, 820}, {1400, 2000}, {0, 2100}};
+        for (int i = 0; i < 3; i++) {
+            Carcasswright shop = Shop.room(5000);
+            int type = Shop.add(shop, texts[i]);
+            shop.obstacle(0, 100, 200, heights[i][1], heights[i][1] + 1);
+            if (heights[i][0] > 0) {
+                shop.obstacle(0, 100, 200, heights[i][0] - 1, heights[i][0]);
+            }
+            Check.same("between, " + texts[i], 0, shop.place(type, 0, 0, 0));
+            int top = shop.obstacle(0, 1100, 1200, heights[i][1] - 1, heights[i][1]);
+            Check.unsupported("at its top, " + texts[i], () -> shop.place(type, 0, 1000, 0));
+            cause(shop, 'p', top, 'h', heights[i][1] - 1);
+            int bottom = shop.obstacle(0, 2100, 2200, heights[i][0], heights[i][0] + 1);
+            Check.unsupported("at its bottom, " + texts[i], () -> shop.place(type, 0, 2000, 0));
+            cause(shop, 'p', bottom, 'h', heights[i][0]);
+        }
+    }
+
     /** A first one on wall 0, so much ahead of its end, and a second one on wall 1, from a place on. */
     private static boolean standsInCorner(String first, int left, String second, int from) {
         Carcasswright shop = Shop.room(4000, 4000, 4000);

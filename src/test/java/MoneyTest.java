@@ -53,6 +53,9 @@ final class MoneyTest {
         int body = 2 * (2 * 1176 / 100 + 2) + 2 * (2 * 170 / 100) + 2 * 704 / 100;
         Check.same("colour 0", body + 2 * 706 / 100 + 4 + 3 * 4, door.price(0));
         Check.same("colour 2", body + 9 * 706 / 100 + 9 + 3 * 4, door.price(1));
+        // sides 8, bottom 8, top 1, back 11; the front 2 * 144 / 100 and 1998 / 1000, or 5 and 3
+        Check.same("edges of 1998", 16 + 8 + 1 + 11 + 2 + 1 + 11, Shop.one("bw827r1", 0).price(0));
+        Check.same("edges of 3996", 16 + 8 + 1 + 11 + 7 + 3 + 11, Shop.one("bw827r1", 1).price(0));
         Check.noIndex("module", () -> shop.price(1));
         Check.noIndex("module below", () -> shop.price(-1));
     }
@@ -69,6 +72,7 @@ final class MoneyTest {
         Check.unsupported("least", () -> shop.packs(0, 1));
         Check.badArgument("0", () -> shop.packs(0, 0));
         Check.badArgument("too many", () -> shop.packs(0, 100000));
+        Check.same("25 parts", 7, Shop.one("td2s9r9", 0).packs(0, 14817));
         Check.noIndex("module first", () -> shop.packs(1, 0));
         Check.noIndex("module below", () -> shop.packs(-1, 1));
     }
@@ -84,6 +88,12 @@ final class MoneyTest {
         for (int part = 0; part < narrow.length; part++) {
             Check.same("part " + part, narrow[part], shop.packOf(0, 5390, part));
         }
+        Carcasswright full = Shop.one("td2s9r9", 0);
+        int last = 0;
+        for (int part = 0; part < 25; part++) {
+            last = Math.max(last, full.packOf(0, 14817, part));
+        }
+        Check.same("the last pack", 6, last);
         Check.noIndex("part first", () -> shop.packOf(0, 0, 8));
         Check.noIndex("part below", () -> shop.packOf(0, 9999, -1));
         Check.noIndex("module", () -> shop.packOf(1, 9999, 0));

@@ -70,14 +70,25 @@ final class RoomTest {
         Check.same("as measured", 600, even.lengthOf(0));
     }
 
+    static void promise03_closeOfOneTooMuch() {
+        Carcasswright shop = Shop.room(601, 700, 600, 701);
+        Check.same("share", 1, shop.close());
+        Check.same("e", 600, shop.lengthOf(0));
+        Check.same("n", 701, shop.lengthOf(1));
+        Check.same("w", 600, shop.lengthOf(2));
+        Check.same("s", 701, shop.lengthOf(3));
+    }
+
     static void promise03_closeIsRefused() {
         Check.unsupported("no walls", () -> new Carcasswright().close());
         Check.unsupported("three walls", () -> Shop.room(600, 600, 600).close());
-        Carcasswright noSouth = new Carcasswright();
-        for (char way : "enwwne".toCharArray()) {
-            noSouth.addWall(way, 900);
+        for (String ways : new String[] {"enwwne", "ewss", "nsnsww", "eensn"}) {
+            Carcasswright other = new Carcasswright();
+            for (char way : ways.toCharArray()) {
+                other.addWall(way, 900);
+            }
+            Check.unsupported("ways " + ways, other::close);
         }
-        Check.unsupported("none to the s", noSouth::close);
         Carcasswright shop = Shop.room(3000, 2500, 3011, 2494);
         shop.place(Shop.add(shop, "b"), 0, 700, 0);
         Check.unsupported("modules are placed", shop::close);

@@ -54,6 +54,11 @@ final class SawTest {
         Check.same("one", 1, shop.offcuts());
         shop.addBoards(0, 18, 300, 300, 1);
         Check.same("still one", 1, shop.offcuts());
+        Carcasswright only = Shop.one("b", 0);
+        only.addBoards(0, 18, 2800, 2070, 1);
+        only.addBoards(0, 8, 716, 596, 1);
+        only.cut(0);
+        Check.same("nothing but one", 1, only.offcuts());
     }
 
     static void promise34_board() {
@@ -228,6 +233,21 @@ final class SawTest {
         // one side and the top on the first board, all others on the second one, shelves in the strip of the side
         Check.same("boards", 3, shop.cut(0));
         stock(shop, 376, 560, 2800, 336);
+    }
+
+    static void promise36_aBoardForEachPiece() {
+        // 25 parts, two doors as one: doors, fronts, sides, bottom and top, shelves, back
+        Carcasswright shop = Shop.one("td2s9r9", 0);
+        shop.addBoards(0, 18, 2100, 560, 2);
+        shop.addBoards(0, 18, 564, 560, 2);
+        shop.addBoards(0, 18, 562, 540, 9);
+        shop.addBoards(0, 18, 476, 598, 1);
+        shop.addBoards(0, 18, 300, 596, 9);
+        shop.addBoards(0, 8, 2096, 596, 1);
+        Check.same("boards", 24, shop.cut(0));
+        stock(shop);
+        Check.same("dust", 9 * 124 * 596 + 476 * 4, shop.area('d'));
+        Check.same("all is cut", 1.0f, shop.cutShare());
     }
 
     static void promise37_lose() {
