@@ -16,6 +16,9 @@ final class Runner {
     private static final Class<?>[] TESTS = {
         RoomTest.class, TextTest.class, LayoutTest.class, PartsTest.class, SawTest.class, MoneyTest.class,
         JobsTest.class, FiguresTest.class, FaceTest.class, RulesTest.class,
+        RangesTest.class, EmptyTest.class, FullTest.class, PrecedenceTest.class, RoomEdgesTest.class,
+        TextEdgesTest.class, LayoutEdgesTest.class, PartsEdgesTest.class, SawEdgesTest.class, MoneyEdgesTest.class,
+        JobsEdgesTest.class,
         RandomRunsTest.class,
     };
 
