@@ -48,7 +48,22 @@ final class EmptyTest {
                 answersAreDue(shop, call);
             }
         }
-        answersAreDue(shop, new Object[][] {{0, "wipe"}, {0, "boards"}, {0, "modules"}, {0, "lateness"}, {true, "isSound"}});
+        answersAreDue(shop, new Object[][] {
+            {0, "wipe"}, {0, "boards"}, {0, "modules"}, {0, "lateness"}, {true, "isSound"},
+        });
+    }
+
+    /** An object is used for at most 512 calls: the last ones answer as the first ones. */
+    static void promise01_fiveHundredAndTwelveCalls() {
+        Carcasswright shop = new Carcasswright();
+        for (int call = 1; call <= 509; call += 4) {
+            answersAreDue(shop, new Object[][] {{1, "type", 'x'}, {'k', "faultKind"}, {1, "wipe"}, {0, "modules"}});
+        }
+        Carcasswright last = new Carcasswright();
+        for (int call = 1; call < 512; call++) {
+            answersAreDue(last, new Object[][] {{Calls.NO_INDEX, "lengthOf", 0}});
+        }
+        answersAreDue(last, new Object[][] {{0, "addWall", 'e', 500}});
     }
 
     static void promise05_noWalls() {

@@ -459,6 +459,18 @@ final class LayoutEdgesTest {
         }
     }
 
+    static void promise20_freeOfAClosedRoom() {
+        Carcasswright shop = Shop.room(3000, 2500, 3011, 2494);
+        shop.close();
+        Shop.add(shop, "b");
+        shop.place(0, 2, 2406, 0);
+        int[] free = {3006, 2497, 2406, 2497};
+        for (int wall = 0; wall < 4; wall++) {
+            Check.same("free of wall " + wall, free[wall], shop.free(wall, false));
+            Check.same("in one row", free[wall], shop.widest(wall, false));
+        }
+    }
+
     static void promise21_rowsOfModules() {
         Carcasswright shop = Shop.room(3000, 3000);
         for (String text : new String[] {"bw500", "uw400", "tw300"}) {

@@ -75,6 +75,17 @@ final class PrecedenceTest {
         first(Calls.BAD_STATE, Shop::full, "place", 0, 0, 9999, 0);
     }
 
+    /** Of a module whose parts are cut already, with other causes ahead. */
+    static void promise16_refusalsChangeNothingButCauses() {
+        Refusals.dueWithCauses(Shop::standard, new Object[] {'o', 1, 'h', 1400}, "change", 0, 2);
+        Refusals.dueWithCauses(Shop::standard, new Object[] {'o', 0, 'h', 0}, "place", 2, 0, 600, 0);
+        Refusals.dueWithCauses(Shop::standard, new Object[] {'p', 0, 'h', 0}, "shift", 0, 1500);
+        Refusals.dueWithCauses(Shop::standard, new Object[] {'e', 94}, "shift", 0, 2500);
+        Refusals.dueWithCauses(Shop::standard, new Object[] {'e', 2}, "place", 3, 3, 1639, 2);
+        Refusals.dueWithCauses(Shop::full, new Object[] {'o', 14, 'h', 0}, "shift", 15, 2249);
+        Refusals.dueWithCauses(Shop::full, new Object[] {'o', 15, 'h', 0}, "change", 14, 7);
+    }
+
     static void promise15_indexArgumentRefusal() {
         first(Calls.NO_INDEX, Shop::standard, "shift", 3, 10000);
         first(Calls.NO_INDEX, Shop::standard, "shift", -1, 9999);

@@ -9,7 +9,7 @@ import java.util.Random;
 
 /** Random runs of at most 512 calls, each answer compared with that of the model. The seeds are fixed. */
 final class RandomRunsTest {
-    private static final int RUNS = 1500;
+    private static final int RUNS = 4000;
     private static final int MOST_WRONG = 10;
 
     private final Random random;

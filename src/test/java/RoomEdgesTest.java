@@ -65,7 +65,8 @@ final class RoomEdgesTest {
         for (String ways : new String[] {"", "e", "ew", "enw", "ews"}) {
             Refusals.due(() -> Shop.ways(ways, 900), Calls.UNSUPPORTED, "close");
         }
-        for (String ways : new String[] {"ennww", "eenwn", "wnsns", "esews", "enwwwn", "nswsns", "eweeww"}) {
+        for (String ways : new String[] {"ennww", "eenwn", "wnsns", "esews", "enwwwn", "nswsns", "eweeww",
+            "nsns", "ewew", "nsnsns", "ewewew", "nnss", "wwee"}) {
             Refusals.due(() -> Shop.ways(ways, 900), Calls.UNSUPPORTED, "close");
         }
         for (String ways : new String[] {"enws", "snwe", "ewns", "nnssew", "eeewns"}) {

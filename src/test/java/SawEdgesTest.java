@@ -202,6 +202,32 @@ final class SawEdgesTest {
         stock(much, 18, 1, 300, 596);
     }
 
+    /** Of a width of 560 there are a bottom of 1164 and sides of 720; the top of 1164 is 100 wide. */
+    private static Carcasswright wide(int... lengthsAndWidths) {
+        Carcasswright shop = Shop.one("bw1200", 0);
+        shop.addBoards(0, 8, 1196, 716, 1);
+        for (int i = 0; i < lengthsAndWidths.length; i += 2) {
+            shop.addBoards(0, 18, lengthsAndWidths[i], lengthsAndWidths[i + 1], 1);
+        }
+        return shop;
+    }
+
+    static void promise36_fallingLengths() {
+        Check.same("bottom, sides, top, back", 4, wide(1164, 560, 720, 1124, 1164, 300).cut(0));
+        // as the bottom goes ahead of the sides it opens the first board, whose last place takes the top
+        Check.same("sides on the second board", 3, wide(1164, 664, 720, 1124).cut(0));
+        Refusals.due(() -> wide(1164, 663, 720, 1124), Calls.UNSUPPORTED, "cut", 0);
+        Refusals.due(() -> wide(1163, 664, 720, 1124), Calls.UNSUPPORTED, "cut", 0);
+    }
+
+    static void promise36_noPlaceOnAShorterBoard() {
+        // there are 876 left below the sides, but the top is longer than that board
+        Check.same("the top opens another one", 4, wide(1164, 560, 720, 2000, 1164, 300).cut(0));
+        Refusals.due(() -> wide(1164, 560, 720, 2000), Calls.UNSUPPORTED, "cut", 0);
+        Refusals.due(() -> wide(1164, 560, 1163, 2000), Calls.UNSUPPORTED, "cut", 0);
+        Check.same("it has place on one that is as long", 3, wide(1164, 560, 1164, 2000).cut(0));
+    }
+
     static void promise36_intoTheFirstBoardWithPlace() {
         // two fronts have place on the first board, the third one on the next
         Carcasswright shop = faces("br3", 400, 600, 1000, 600);
@@ -332,6 +358,42 @@ final class SawEdgesTest {
         shop.lose(0, 4);
         Check.same("the back ahead of the door", 2, shop.cut(0));
         Check.same("the last one is of the door", 1, shop.board(shop.boards() - 1, 'c'));
+    }
+
+    /** A board for each of 24 pieces, of which 38 offcuts are left: no next piece has place in one of them. */
+    private static Carcasswright muchIsLeft() {
+        Carcasswright shop = Shop.one("td2s9r9", 1);
+        shop.addBoards(0, 18, 2404, 864, 2);
+        shop.addBoards(0, 18, 868, 864, 2);
+        shop.addBoards(0, 18, 866, 844, 9);
+        shop.addBoards(0, 8, 2400, 900, 1);
+        shop.addBoards(1, 18, 476, 902, 1);
+        shop.addBoards(1, 18, 300, 900, 9);
+        return shop;
+    }
+
+    static void promise36_twoOffcutsOfABoard() {
+        Carcasswright shop = muchIsLeft();
+        Check.same("boards", 24, shop.boards());
+        Check.same("all are opened", 24, shop.cut(0));
+        Check.same("offcuts", 38, shop.offcuts());
+        Check.same("and nothing else", 38, shop.boards());
+        stock(shop, 8, 0, 300, 596, 2400, 300);
+        stock(shop, 18, 1, 476, 300, 300, 300, 300, 300, 300, 300, 300, 300, 300, 300, 300, 300, 300, 300,
+            300, 300, 300, 300);
+        Carcasswright full = muchIsLeft();
+        full.addBoards(2, 8, 2800, 2100, 20);
+        full.addBoards(2, 8, 2800, 2100, 16);
+        Check.same("60 boards", 60, full.boards());
+        Check.same("24 are opened", 24, full.cut(0));
+        Check.same("as many offcuts have place", 24, full.offcuts());
+        Check.same("60 again", 60, full.boards());
+        stock(full, 8, 0);
+        stock(full, 18, 1);
+        Check.same("the first offcut", 300, full.board(36, 'l'));
+        Check.same("a strip of the first side", 560, full.board(36, 'w'));
+        Check.same("the last one is of a shelf, below its strip", 866, full.board(59, 'l'));
+        Check.same("as wide as is left", 300, full.board(59, 'w'));
     }
 
     static void promise36_allOrNothing() {

@@ -150,7 +150,7 @@ final class TextEdgesTest {
         }
     }
 
-    /** A door is 716, 536, 356, 176 and -4 high; of upper ones 596, 416, 236, 56 and -124; of tall ones 476 at least. */
+    /** By drawers doors are 716, 536, 356, 176 and -4 high, of upper ones 596, 416, 236, 56 and -124. */
     static void promise11_doorsLessThan200High() {
         right("bd1r2", 600, 1, 0, 2, 720);
         fault("bd1r3", 5, 'f');
@@ -202,6 +202,36 @@ final class TextEdgesTest {
         Check.same("its shelves", 3, shop.told(1, 's'));
         Check.same("its drawers", 1, shop.told(1, 'r'));
         Check.same("its height", 600, shop.told(1, 'h'));
+    }
+
+    static void promise10_askingChangesNothing() {
+        Refusals.due(Shop::standard, Calls.NO_ELEMENT, "fault");
+        Refusals.due(Shop::full, Calls.NO_ELEMENT, "fault");
+    }
+
+    static void promise11_askingChangesNothing() {
+        Refusals.due(Shop::standard, Calls.NO_ELEMENT, "faultKind");
+        Refusals.due(Shop::full, Calls.NO_ELEMENT, "faultKind");
+    }
+
+    /** What was told by a text that is wiped does not count for the next one. */
+    static void promise10_behindAnotherText() {
+        for (String before : new String[] {"bw60", "bw", "tw1200d2s9r9", "bd3", "@1w1", "xx"}) {
+            for (String text : new String[] {"b5", "@05"}) {
+                Carcasswright shop = text(before);
+                Calls.answer(shop, "fault");
+                Shop.tell(shop, text);
+                Calls.due(text.length() - 1, shop, "fault");
+                Calls.due('i', shop, "faultKind");
+            }
+            Carcasswright shop = text(before);
+            Calls.answer(shop, "fault");
+            Shop.tell(shop, "u");
+            Check.same("a type", 4, shop.addType());
+            Check.same("its width", 600, shop.told(4, 'w'));
+            Check.same("no shelves", 0, shop.told(4, 's'));
+            Check.same("its height", 600, shop.told(4, 'h'));
+        }
     }
 
     static void promise09_wipeOfAFault() {
