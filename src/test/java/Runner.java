@@ -19,7 +19,7 @@ final class Runner {
         RangesTest.class, EmptyTest.class, FullTest.class, PrecedenceTest.class, RoomEdgesTest.class,
         TextEdgesTest.class, LayoutEdgesTest.class, PartsEdgesTest.class, SawEdgesTest.class, MoneyEdgesTest.class,
         JobsEdgesTest.class,
-        RandomRunsTest.class,
+        RandomRunsTest.class, ReadmeTest.class,
     };
 
     public static void main(String[] args) throws IOException, ReflectiveOperationException {
