@@ -196,14 +196,14 @@ public final class Carcasswright {
     }
 
     public char clash(int depth) throws NoSuchElementException {
-        if (depth < 0 || depth >= room.causeCount) {
+        if (depth < 0 || depth >= room.causeCount || depth >= Room.MOST_CAUSES) {
             throw new NoSuchElementException();
         }
         return room.causes[depth];
     }
 
     public int clashNumber(int depth) throws NoSuchElementException {
-        if (depth < 0 || depth >= room.causeCount) {
+        if (depth < 0 || depth >= room.causeCount || depth >= Room.MOST_CAUSES) {
             throw new NoSuchElementException();
         }
         return room.causeNumbers[depth];
@@ -452,7 +452,7 @@ public final class Carcasswright {
     }
 
     public int jobAt(int index) throws IndexOutOfBoundsException {
-        if (index < 0 || index >= jobs.count) {
+        if (index < 0 || index >= jobs.count || index >= Jobs.MOST_JOBS) {
             throw new IndexOutOfBoundsException();
         }
         jobs.plan();
@@ -562,14 +562,15 @@ public final class Carcasswright {
         static final int MOST_WALLS = 6;
         static final int MOST_OBSTACLES = 8;
         static final int MOST_MODULES = 16;
+        static final int MOST_CAUSES = 2;
 
         final Wall[] walls = new Wall[MOST_WALLS];
         final Obstacle[] obstacles = new Obstacle[MOST_OBSTACLES];
         final PlacedModule[] modules = new PlacedModule[MOST_MODULES];
         /** What is to be placed, shifted or changed, as it would stand. */
         final PlacedModule trial;
-        final char[] causes = new char[2];
-        final int[] causeNumbers = new int[2];
+        final char[] causes = new char[MOST_CAUSES];
+        final int[] causeNumbers = new int[MOST_CAUSES];
         int wallCount;
         int obstacleCount;
         int moduleCount;
